@@ -333,7 +333,7 @@ public final class ManorLoops {
         checkMinutes(minutes, MAX_OUTLOOK);
         trial.copyFrom(actual);
         trial.run(minutes);
-        return trial.stage.cutEver.sum() - actual.stage.cutEver.sum();
+        return countCutsOfTrial();
     }
 
     public int doubles(int track) throws IndexOutOfBoundsException {
@@ -359,7 +359,8 @@ public final class ManorLoops {
         trial.copyFrom(actual);
         trial.run(DIGEST_KNOW_MINUTES);
         d = foldGuests(d);
-        return fold(d, wouldCut(DIGEST_CUT_MINUTES));
+        trial.run(DIGEST_CUT_MINUTES - DIGEST_KNOW_MINUTES);
+        return fold(d, countCutsOfTrial());
     }
 
     // ---- inside
@@ -424,6 +425,10 @@ public final class ManorLoops {
             }
         }
         return d;
+    }
+
+    private int countCutsOfTrial() {
+        return trial.stage.cutEver.sum() - actual.stage.cutEver.sum();
     }
 
     private static boolean standsForHabit(int answer) {
@@ -865,7 +870,7 @@ public final class ManorLoops {
         int busyTracks() {
             int set = 0;
             for (int scene = 0; scene < script.scenes; scene++) {
-                if (runs(scene)) {
+                if (phase.get(scene) == RUNS) {
                     set |= script.roles.get(scene);
                 }
             }
@@ -875,7 +880,7 @@ public final class ManorLoops {
         int nextSceneOf(int set) {
             int next = NONE;
             for (int scene = 0; scene < script.scenes; scene++) {
-                if (waits(scene) && script.has(scene, set)
+                if (phase.get(scene) == WAITS && script.has(scene, set)
                         && (next == NONE || script.start.get(scene) < script.start.get(next))) {
                     next = scene;
                 }
@@ -885,7 +890,7 @@ public final class ManorLoops {
 
         int runningWith(int track) {
             for (int scene = 0; scene < script.scenes; scene++) {
-                if (runs(scene) && script.has(scene, 1 << track)) {
+                if (phase.get(scene) == RUNS && script.has(scene, 1 << track)) {
                     return scene;
                 }
             }
@@ -895,7 +900,7 @@ public final class ManorLoops {
         int runningIn(int place) {
             int set = 0;
             for (int scene = 0; scene < script.scenes; scene++) {
-                if (runs(scene) && script.room.get(scene) == place) {
+                if (phase.get(scene) == RUNS && script.room.get(scene) == place) {
                     set |= 1 << scene;
                 }
             }
@@ -905,7 +910,7 @@ public final class ManorLoops {
         int countRunning() {
             int count = 0;
             for (int scene = 0; scene < script.scenes; scene++) {
-                if (runs(scene)) {
+                if (phase.get(scene) == RUNS) {
                     count++;
                 }
             }

@@ -62,6 +62,8 @@ public final class AskingTest {
         m.door(3, 0, 1);
         Check.same("one door", m.way(0, 3, 0), 1);
         Check.same("next is it", m.way(0, 3, 1), 3);
+        Check.same("next to itself with doors", m.way(0, 0, 1), 0);
+        Check.same("to itself with doors", m.way(0, 0, 0), 0);
         Check.same("alone", m.way(4, 0, 0), -1);
         Check.same("alone, to", m.way(0, 4, 1), -1);
     }
@@ -275,6 +277,13 @@ public final class AskingTest {
         Check.sameDouble("all know one", m.meanKnown(), 1.0);
         m.guest(2);
         Check.sameDouble("one knows none", m.meanKnown(), 0.75);
+        ManorLoops single = rooms(1);
+        single.track(0);
+        single.scene(0, 1, 1, 1, -1);
+        single.scene(0, 3, 1, 1, -1);
+        single.guest(0);
+        single.pass(3);
+        Check.sameDouble("one guest", single.meanKnown(), 2.0);
         ManorLoops empty = rooms(2);
         Check.sameDouble("without guests", empty.meanKnown(), 0.0);
     }

@@ -409,6 +409,7 @@ public final class MinuteTest {
         }
         m.pass(1);
         Check.same("two go", m.ofRoom(1, 1), 2);
+        Check.same("three stay", m.ofRoom(0, 1), 3);
         Check.same("the first ones", m.ofGuest(1, 0), 1);
         Check.same("guest 2 is blocked", m.ofGuest(2, 6), 1);
         Check.same("blocked ever", m.many(12), 3);

@@ -69,6 +69,17 @@ public final class OutlookTest {
         Check.same("to follow, as it is short and far", late.bestHabit(0, 4), 11);
         late.habit(0, 1, 1);
         Check.same("the known ones", late.wouldKnow(0, 4), 1);
+
+        ManorLoops first = new ManorLoops();
+        first.room(4);
+        first.room(4);
+        first.room(4);
+        first.door(0, 1, 2);
+        first.door(1, 2, 2);
+        first.track(1);
+        first.scene(2, 2, 1, 1, -1);
+        first.guest(0);
+        Check.same("to follow track 0", first.bestHabit(0, 2), 10);
     }
 
     private static void promise24OfSeveral() {
@@ -102,6 +113,16 @@ public final class OutlookTest {
         m.pass(16);
         Check.same("behind the first one", m.wouldCut(19), 0);
         Check.same("the second one", m.wouldCut(20), 1);
+
+        ManorLoops doubled = new ManorLoops();
+        doubled.room(1);
+        doubled.room(1);
+        doubled.track(0);
+        doubled.track(1);
+        doubled.scene(1, 1, 1, 2, -1);
+        Check.same("in time", doubled.wouldCut(5), 0);
+        doubled.play(1, 0);
+        Check.same("played by one that does not come", doubled.wouldCut(5), 1);
 
         ManorLoops end = new ManorLoops();
         end.room(1);
@@ -203,6 +224,19 @@ public final class OutlookTest {
         m.play(2, 0);
         m.pass(30);
         Check.same("of a play with a double", m.digest(), fold(m));
+        for (int minutes = 1; minutes <= 30; minutes++) {
+            ManorLoops other = evening();
+            other.habit(0, 3, 0);
+            other.pass(minutes);
+            Check.same("at " + minutes, other.digest(), fold(other));
+        }
+        ManorLoops one = new ManorLoops();
+        one.room(2);
+        one.track(0);
+        one.scene(0, 1, 4, 1, -1);
+        one.guest(0);
+        one.pass(2);
+        Check.same("with one scene", one.digest(), fold(one));
         ManorLoops bare = new ManorLoops();
         bare.room(2);
         bare.guest(0);

@@ -194,9 +194,12 @@ public final class TellingTest {
         Check.noArgument(many, "scene thirteen with length 0", () -> many.scene(0, 15, 0, 1, -1));
 
         ManorLoops doubled = stage();
-        doubled.play(1, 2);
-        Check.noState(doubled, "with any one played", () -> doubled.scene(0, 0, 1, 1, -1));
-        doubled.part(1);
+        for (int played = 0; played < 3; played++) {
+            doubled.play(played, (played + 1) % 3);
+            Check.noState(doubled, "with one played: " + played, () -> doubled.scene(0, 0, 1, 1, -1));
+            Check.noState(doubled, "with one played: " + played, () -> doubled.scene(0, 0, 1, 4, -1));
+            doubled.part(played);
+        }
         Check.same("parted", doubled.scene(0, 0, 1, 1, -1), 0);
     }
 
