@@ -3,21 +3,7 @@ public final class AskingTest {
     private static final int[] WILD = {-1, -2, Integer.MIN_VALUE, Integer.MAX_VALUE};
 
     public static void main(String[] args) {
-        promise14OfRoom();
-        promise14Wrong();
-        promise15Way();
-        promise15SmallestNumber();
-        promise15Wrong();
-        promise16OfTrack();
-        promise16OfDoubles();
-        promise17OfScene();
-        promise18OfGuest();
-        promise19OfProp();
-        promise16To19Wrong();
-        promise20Seen();
-        promise21Many();
-        promise22MeanKnown();
-        Check.end();
+        Check.runAll(AskingTest.class);
     }
 
     private static void promise14OfRoom() {
@@ -47,7 +33,7 @@ public final class AskingTest {
     }
 
     private static void promise15Way() {
-        ManorLoops m = rooms(5);
+        ManorLoops m = Houses.rooms(5, 3);
         Check.same("to itself", m.way(2, 2, 0), 0);
         Check.same("next to itself", m.way(2, 2, 1), 2);
         Check.same("no way", m.way(0, 1, 0), -1);
@@ -69,7 +55,7 @@ public final class AskingTest {
     }
 
     private static void promise15SmallestNumber() {
-        ManorLoops m = rooms(6);
+        ManorLoops m = Houses.rooms(6, 3);
         m.door(0, 4, 1);
         m.door(4, 5, 1);
         m.door(0, 3, 1);
@@ -87,7 +73,7 @@ public final class AskingTest {
     }
 
     private static void promise15Wrong() {
-        ManorLoops m = rooms(2);
+        ManorLoops m = Houses.rooms(2, 3);
         Check.noIndex(m, "from 2", () -> m.way(2, 0, 0));
         Check.noIndex(m, "to 2", () -> m.way(0, 2, 0));
         Check.noArgument(m, "what 2", () -> m.way(0, 1, 2));
@@ -100,7 +86,7 @@ public final class AskingTest {
     }
 
     private static void promise16OfTrack() {
-        ManorLoops m = rooms(3);
+        ManorLoops m = Houses.rooms(3, 3);
         m.door(0, 1, 1);
         m.door(1, 2, 1);
         m.track(0);
@@ -120,7 +106,7 @@ public final class AskingTest {
         m.pass(2);
         sameTrack(m, 0, 0, -1, -1, -1, 4);
 
-        ManorLoops equal = rooms(1);
+        ManorLoops equal = Houses.rooms(1, 3);
         equal.track(0);
         equal.scene(0, 9, 1, 1, -1);
         equal.scene(0, 8, 1, 1, -1);
@@ -128,7 +114,7 @@ public final class AskingTest {
     }
 
     private static void promise16OfDoubles() {
-        ManorLoops m = rooms(2);
+        ManorLoops m = Houses.rooms(2, 3);
         m.door(0, 1, 1);
         m.track(0);
         m.track(1);
@@ -143,7 +129,7 @@ public final class AskingTest {
         m.pass(1);
         sameTrack(m, 1, 1, -1, -1, 0, 0);
 
-        ManorLoops other = rooms(1);
+        ManorLoops other = Houses.rooms(1, 3);
         other.track(0);
         other.track(0);
         other.scene(0, 9, 1, 1, -1);
@@ -277,14 +263,14 @@ public final class AskingTest {
         Check.sameDouble("all know one", m.meanKnown(), 1.0);
         m.guest(2);
         Check.sameDouble("one knows none", m.meanKnown(), 0.75);
-        ManorLoops single = rooms(1);
+        ManorLoops single = Houses.rooms(1, 3);
         single.track(0);
         single.scene(0, 1, 1, 1, -1);
         single.scene(0, 3, 1, 1, -1);
         single.guest(0);
         single.pass(3);
         Check.sameDouble("one guest", single.meanKnown(), 2.0);
-        ManorLoops empty = rooms(2);
+        ManorLoops empty = Houses.rooms(2, 3);
         Check.sameDouble("without guests", empty.meanKnown(), 0.0);
     }
 
@@ -310,14 +296,6 @@ public final class AskingTest {
         m.guest(0);
         m.guest(0);
         m.guest(1);
-        return m;
-    }
-
-    private static ManorLoops rooms(int count) {
-        ManorLoops m = new ManorLoops();
-        for (int room = 0; room < count; room++) {
-            m.room(3);
-        }
         return m;
     }
 

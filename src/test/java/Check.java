@@ -1,6 +1,16 @@
-/** Counts the answers that are not as due; a test ends with exit code 1 if there was one. */
+import java.lang.reflect.InvocationTargetException;
+import java.lang.reflect.Method;
+import java.lang.reflect.Modifier;
+import java.util.Arrays;
+import java.util.Comparator;
+
+/** Runs tests and counts the answers that are not as due; a test class ends with exit code 1 if there was one. */
 final class Check {
+    private static final int MOST_TOLD = 50;
+
     private static int wrong = 0;
+    /** The name of the test that runs: every complaint names it, and so the promise's number. */
+    private static String test = "";
 
     /** A call that may throw. */
     interface Call {
@@ -8,6 +18,41 @@ final class Check {
     }
 
     private Check() {
+    }
+
+    /** Every static method whose name begins with "promise" is a test: none can be forgotten in a list. */
+    static void runAll(Class<?> tests) {
+        Method[] methods = tests.getDeclaredMethods();
+        Arrays.sort(methods, Comparator.comparing(Method::getName));
+        int ran = 0;
+        for (Method method : methods) {
+            if (isTest(method)) {
+                run(method);
+                ran++;
+            }
+        }
+        test = tests.getSimpleName();
+        if (ran == 0) {
+            complain("has no tests");
+        }
+        end(ran);
+    }
+
+    private static boolean isTest(Method method) {
+        return method.getName().startsWith("promise") && Modifier.isStatic(method.getModifiers())
+            && method.getParameterCount() == 0 && method.getReturnType() == void.class;
+    }
+
+    private static void run(Method method) {
+        test = method.getName();
+        method.setAccessible(true);
+        try {
+            method.invoke(null);
+        } catch (InvocationTargetException e) {
+            complain("ended with " + e.getCause() + " at " + e.getCause().getStackTrace()[0]);
+        } catch (IllegalAccessException e) {
+            complain("can not be run");
+        }
     }
 
     static void same(String what, long got, long due) {
@@ -56,14 +101,14 @@ final class Check {
 
     static void complain(String what) {
         wrong++;
-        if (wrong <= 50) {
-            System.out.println(what);
+        if (wrong <= MOST_TOLD) {
+            System.out.println(test + ": " + what);
         }
     }
 
-    static void end() {
+    private static void end(int ran) {
+        System.out.println(test + ": tests " + ran + ", wrong answers " + wrong);
         if (wrong > 0) {
-            System.out.println(wrong + " wrong");
             System.exit(1);
         }
     }

@@ -3,18 +3,7 @@ public final class DoingTest {
     private static final int[] WILD = {-1, -2, Integer.MIN_VALUE, Integer.MAX_VALUE};
 
     public static void main(String[] args) {
-        promise10Take();
-        promise10NotThere();
-        promise10SceneHasIt();
-        promise11Leave();
-        promise12Play();
-        promise12Wrong();
-        promise12InPairsOnly();
-        promise12Overlap();
-        promise12Running();
-        promise13Part();
-        promise13Running();
-        Check.end();
+        Check.runAll(DoingTest.class);
     }
 
     private static void promise10Take() {

@@ -1,39 +1,11 @@
 /** Promise 9: pass, and the five steps of a minute. */
 public final class MinuteTest {
     public static void main(String[] args) {
-        promise9Pass();
-        promise9Wrong();
-        step1LoopEnds();
-        step1RunningSceneIsCut();
-        step1PropsGoHome();
-        step2TracksWalk();
-        step2SmallestStartFirst();
-        step2NoWay();
-        step2PlayedTrackGoesAlong();
-        step3SceneRuns();
-        step3StartZero();
-        step3LateAndCut();
-        step3TracksInAnotherScene();
-        step3DoublesInAnotherScene();
-        step3PropIsNeeded();
-        step3PropIsHeldByTrack();
-        step4Follow();
-        step4DoorWidth();
-        step4BothWaysTogether();
-        step4Capacity();
-        step4RoomIsLeftFirst();
-        step4Wander();
-        step4WanderStays();
-        step4Seek();
-        step4SeekKnownAndFar();
-        step5HalfTheCapacity();
-        step5HalfTheLength();
-        step5SeenInThisLoopOnly();
-        Check.end();
+        Check.runAll(MinuteTest.class);
     }
 
     private static void promise9Pass() {
-        ManorLoops m = rooms(3, 3);
+        ManorLoops m = Houses.rooms(3, 3);
         m.track(0);
         m.scene(0, 2, 1, 1, -1);
         m.scene(0, 5, 2, 1, -1);
@@ -46,7 +18,7 @@ public final class MinuteTest {
     }
 
     private static void promise9Wrong() {
-        ManorLoops m = rooms(1, 3);
+        ManorLoops m = Houses.rooms(1, 3);
         Check.noArgument(m, "pass(0)", () -> m.pass(0));
         Check.noArgument(m, "pass(61)", () -> m.pass(61));
         Check.noArgument(m, "pass least", () -> m.pass(Integer.MIN_VALUE));
@@ -63,8 +35,8 @@ public final class MinuteTest {
         Check.same("NOW", m.many(0), 600);
     }
 
-    private static void step1LoopEnds() {
-        ManorLoops m = rooms(2, 3);
+    private static void promise9Step1LoopEnds() {
+        ManorLoops m = Houses.rooms(2, 3);
         m.track(0);
         m.scene(1, 17, 2, 1, -1);
         m.scene(0, 3, 4, 1, -1);
@@ -83,8 +55,8 @@ public final class MinuteTest {
         Check.same("all LATE of two LOOPS", m.many(10), 6);
     }
 
-    private static void step1RunningSceneIsCut() {
-        ManorLoops m = rooms(1, 3);
+    private static void promise9Step1RunningSceneIsCut() {
+        ManorLoops m = Houses.rooms(1, 3);
         m.track(0);
         m.prop(0);
         m.scene(0, 18, 2, 1, 0);
@@ -96,7 +68,7 @@ public final class MinuteTest {
         same(m, 0, 0, 0, 0, 0, 1);
         Check.same("its prop lies", m.ofProp(0, 2), -1);
 
-        ManorLoops sooner = rooms(1, 3);
+        ManorLoops sooner = Houses.rooms(1, 3);
         sooner.track(0);
         sooner.scene(0, 18, 1, 1, -1);
         sooner.pass(19);
@@ -105,8 +77,8 @@ public final class MinuteTest {
         same(sooner, 0, 0, 0, 0, 1, 0);
     }
 
-    private static void step1PropsGoHome() {
-        ManorLoops m = rooms(2, 3);
+    private static void promise9Step1PropsGoHome() {
+        ManorLoops m = Houses.rooms(2, 3);
         m.door(0, 1, 3);
         m.track(1);
         m.prop(0);
@@ -135,8 +107,8 @@ public final class MinuteTest {
         Check.same("nobody forgets what it READ", m.ofProp(0, 4), 1);
     }
 
-    private static void step2TracksWalk() {
-        ManorLoops m = line(4, 3);
+    private static void promise9Step2TracksWalk() {
+        ManorLoops m = Houses.line(4, 3);
         m.track(0);
         m.scene(3, 2, 2, 1, -1);
         m.pass(1);
@@ -159,8 +131,8 @@ public final class MinuteTest {
         Check.same("stays at home", m.ofTrack(0, 4), 6);
     }
 
-    private static void step2SmallestStartFirst() {
-        ManorLoops m = rooms(3, 3);
+    private static void promise9Step2SmallestStartFirst() {
+        ManorLoops m = Houses.rooms(3, 3);
         m.door(0, 1, 1);
         m.door(0, 2, 1);
         m.track(0);
@@ -180,8 +152,8 @@ public final class MinuteTest {
         Check.same("the other track stayed", m.ofTrack(1, 4), 0);
     }
 
-    private static void step2NoWay() {
-        ManorLoops m = rooms(3, 3);
+    private static void promise9Step2NoWay() {
+        ManorLoops m = Houses.rooms(3, 3);
         m.door(0, 1, 1);
         m.track(0);
         m.scene(2, 0, 1, 1, -1);
@@ -193,8 +165,8 @@ public final class MinuteTest {
         Check.same("goes by a new door", m.ofTrack(0, 0), 1);
     }
 
-    private static void step2PlayedTrackGoesAlong() {
-        ManorLoops m = line(4, 3);
+    private static void promise9Step2PlayedTrackGoesAlong() {
+        ManorLoops m = Houses.line(4, 3);
         m.track(0);
         m.track(2);
         m.scene(2, 3, 2, 2, -1);
@@ -226,8 +198,8 @@ public final class MinuteTest {
         Check.same("doors by itself", m.ofTrack(1, 4), 2);
     }
 
-    private static void step3SceneRuns() {
-        ManorLoops m = rooms(1, 3);
+    private static void promise9Step3SceneRuns() {
+        ManorLoops m = Houses.rooms(1, 3);
         m.track(0);
         m.track(0);
         m.prop(0);
@@ -246,8 +218,8 @@ public final class MinuteTest {
         same(m, 0, 2, 0, 0, 1, 0);
     }
 
-    private static void step3StartZero() {
-        ManorLoops m = rooms(1, 3);
+    private static void promise9Step3StartZero() {
+        ManorLoops m = Houses.rooms(1, 3);
         m.track(0);
         m.scene(0, 0, 2, 1, -1);
         m.pass(1);
@@ -258,8 +230,8 @@ public final class MinuteTest {
         same(m, 0, 1, 2, 0, 1, 0);
     }
 
-    private static void step3LateAndCut() {
-        ManorLoops m = rooms(2, 3);
+    private static void promise9Step3LateAndCut() {
+        ManorLoops m = Houses.rooms(2, 3);
         m.track(0);
         m.scene(1, 6, 2, 1, -1);
         m.pass(5);
@@ -277,8 +249,8 @@ public final class MinuteTest {
         Check.same("all LATE", m.many(10), 5);
     }
 
-    private static void step3TracksInAnotherScene() {
-        ManorLoops m = rooms(2, 3);
+    private static void promise9Step3TracksInAnotherScene() {
+        ManorLoops m = Houses.rooms(2, 3);
         m.door(0, 1, 1);
         m.track(0);
         m.track(1);
@@ -296,7 +268,7 @@ public final class MinuteTest {
         same(m, 0, 1, 1, 1, 0, 0);
         same(m, 1, 1, 1, 0, 0, 0);
 
-        ManorLoops other = rooms(1, 3);
+        ManorLoops other = Houses.rooms(1, 3);
         other.track(0);
         other.scene(0, 2, 2, 1, -1);
         other.scene(0, 4, 1, 1, -1);
@@ -306,9 +278,9 @@ public final class MinuteTest {
     }
 
     /** Scene 1 begins late, as track 2 comes from afar; so the double of its track 0 is late for scene 0. */
-    private static void step3DoublesInAnotherScene() {
+    private static void promise9Step3DoublesInAnotherScene() {
         for (int played = 0; played < 2; played++) {
-            ManorLoops m = line(5, 3);
+            ManorLoops m = Houses.line(5, 3);
             m.track(0);
             m.track(0);
             m.track(4);
@@ -327,8 +299,8 @@ public final class MinuteTest {
         }
     }
 
-    private static void step3PropIsNeeded() {
-        ManorLoops m = rooms(2, 3);
+    private static void promise9Step3PropIsNeeded() {
+        ManorLoops m = Houses.rooms(2, 3);
         m.door(0, 1, 1);
         m.track(0);
         m.prop(1);
@@ -347,8 +319,8 @@ public final class MinuteTest {
         same(m, 0, 1, 1, 1, 0, 0);
     }
 
-    private static void step3PropIsHeldByTrack() {
-        ManorLoops m = rooms(2, 3);
+    private static void promise9Step3PropIsHeldByTrack() {
+        ManorLoops m = Houses.rooms(2, 3);
         m.door(0, 1, 1);
         m.track(0);
         m.track(1);
@@ -372,8 +344,8 @@ public final class MinuteTest {
         same(m, 2, 3, 0, 5, 0, 1);
     }
 
-    private static void step4Follow() {
-        ManorLoops m = line(4, 3);
+    private static void promise9Step4Follow() {
+        ManorLoops m = Houses.line(4, 3);
         m.track(0);
         m.scene(2, 5, 1, 1, -1);
         m.guest(0);
@@ -390,7 +362,7 @@ public final class MinuteTest {
         m.pass(3);
         Check.same("stays with it", m.ofGuest(0, 5), 2);
 
-        ManorLoops apart = rooms(2, 3);
+        ManorLoops apart = Houses.rooms(2, 3);
         apart.track(1);
         apart.guest(0);
         apart.habit(0, 1, 0);
@@ -399,8 +371,8 @@ public final class MinuteTest {
         Check.same("is not blocked", apart.ofGuest(0, 6), 0);
     }
 
-    private static void step4DoorWidth() {
-        ManorLoops m = rooms(2, 9);
+    private static void promise9Step4DoorWidth() {
+        ManorLoops m = Houses.rooms(2, 9);
         m.door(0, 1, 2);
         m.track(1);
         for (int guest = 0; guest < 5; guest++) {
@@ -421,8 +393,8 @@ public final class MinuteTest {
         Check.same("blocked ever", m.many(12), 4);
     }
 
-    private static void step4BothWaysTogether() {
-        ManorLoops m = rooms(2, 9);
+    private static void promise9Step4BothWaysTogether() {
+        ManorLoops m = Houses.rooms(2, 9);
         m.door(1, 0, 1);
         m.track(1);
         m.track(0);
@@ -438,7 +410,7 @@ public final class MinuteTest {
         Check.same("then it goes", m.ofGuest(1, 0), 0);
     }
 
-    private static void step4Capacity() {
+    private static void promise9Step4Capacity() {
         ManorLoops m = new ManorLoops();
         m.room(9);
         m.room(2);
@@ -455,8 +427,8 @@ public final class MinuteTest {
         Check.same("no doors", m.ofGuest(2, 5), 0);
     }
 
-    private static void step4RoomIsLeftFirst() {
-        ManorLoops m = rooms(3, 1);
+    private static void promise9Step4RoomIsLeftFirst() {
+        ManorLoops m = Houses.rooms(3, 1);
         m.door(0, 1, 1);
         m.door(1, 2, 1);
         m.track(2);
@@ -468,7 +440,7 @@ public final class MinuteTest {
         Check.same("the first one leaves", m.ofGuest(0, 0), 2);
         Check.same("the second one comes behind", m.ofGuest(1, 0), 1);
 
-        ManorLoops turned = rooms(3, 1);
+        ManorLoops turned = Houses.rooms(3, 1);
         turned.door(0, 1, 1);
         turned.door(1, 2, 1);
         turned.track(2);
@@ -481,8 +453,8 @@ public final class MinuteTest {
         Check.same("the second one leaves", turned.ofGuest(1, 0), 2);
     }
 
-    private static void step4Wander() {
-        ManorLoops m = rooms(4, 9);
+    private static void promise9Step4Wander() {
+        ManorLoops m = Houses.rooms(4, 9);
         m.door(0, 1, 6);
         m.door(0, 2, 6);
         m.door(0, 3, 6);
@@ -500,8 +472,8 @@ public final class MinuteTest {
         Check.same("nobody is blocked", m.many(12), 0);
     }
 
-    private static void step4WanderStays() {
-        ManorLoops m = rooms(2, 9);
+    private static void promise9Step4WanderStays() {
+        ManorLoops m = Houses.rooms(2, 9);
         m.door(0, 1, 6);
         m.track(0);
         m.scene(0, 1, 2, 1, -1);
@@ -527,8 +499,8 @@ public final class MinuteTest {
         Check.same("so it stays", full.ofGuest(1, 0), 0);
     }
 
-    private static void step4Seek() {
-        ManorLoops m = line(5, 9);
+    private static void promise9Step4Seek() {
+        ManorLoops m = Houses.line(5, 9);
         m.track(4);
         m.track(1);
         m.track(3);
@@ -546,7 +518,7 @@ public final class MinuteTest {
         m.pass(1);
         Check.same("goes on to the next one", m.ofGuest(0, 0), 4);
 
-        ManorLoops between = line(3, 9);
+        ManorLoops between = Houses.line(3, 9);
         between.track(2);
         between.track(0);
         between.scene(2, 1, 2, 1, -1);
@@ -561,8 +533,8 @@ public final class MinuteTest {
         Check.same("without any it stays", between.ofGuest(0, 0), 1);
     }
 
-    private static void step4SeekKnownAndFar() {
-        ManorLoops m = rooms(3, 9);
+    private static void promise9Step4SeekKnownAndFar() {
+        ManorLoops m = Houses.rooms(3, 9);
         m.door(0, 1, 6);
         m.track(2);
         m.track(1);
@@ -579,7 +551,7 @@ public final class MinuteTest {
         Check.same("known", m.ofGuest(0, 4), 2);
     }
 
-    private static void step5HalfTheCapacity() {
+    private static void promise9Step5HalfTheCapacity() {
         ManorLoops m = new ManorLoops();
         m.room(5);
         m.room(9);
@@ -598,7 +570,7 @@ public final class MinuteTest {
         }
         Check.same("who knows it", m.ofScene(0, 10), 3);
 
-        ManorLoops even = rooms(1, 4);
+        ManorLoops even = Houses.rooms(1, 4);
         even.track(0);
         even.scene(0, 1, 1, 1, -1);
         even.guest(0);
@@ -607,7 +579,7 @@ public final class MinuteTest {
         even.pass(1);
         Check.same("two of four see it", even.ofScene(0, 10), 2);
 
-        ManorLoops one = rooms(1, 1);
+        ManorLoops one = Houses.rooms(1, 1);
         one.track(0);
         one.scene(0, 1, 1, 1, -1);
         one.guest(0);
@@ -615,8 +587,8 @@ public final class MinuteTest {
         Check.same("one of one sees it", one.ofScene(0, 10), 1);
     }
 
-    private static void step5HalfTheLength() {
-        ManorLoops m = rooms(1, 3);
+    private static void promise9Step5HalfTheLength() {
+        ManorLoops m = Houses.rooms(1, 3);
         m.track(0);
         m.scene(0, 1, 5, 1, -1);
         m.scene(0, 8, 4, 1, -1);
@@ -633,8 +605,8 @@ public final class MinuteTest {
         Check.same("mean", m.seen(0, 1), 2);
     }
 
-    private static void step5SeenInThisLoopOnly() {
-        ManorLoops m = rooms(2, 9);
+    private static void promise9Step5SeenInThisLoopOnly() {
+        ManorLoops m = Houses.rooms(2, 9);
         m.door(0, 1, 6);
         m.track(0);
         m.track(1);
@@ -663,21 +635,5 @@ public final class MinuteTest {
             Check.same("at " + m.many(0) + " ofScene(" + scene + ", " + what + ")", m.ofScene(scene, what),
                 due[what - 5]);
         }
-    }
-
-    private static ManorLoops rooms(int count, int capacity) {
-        ManorLoops m = new ManorLoops();
-        for (int room = 0; room < count; room++) {
-            m.room(capacity);
-        }
-        return m;
-    }
-
-    private static ManorLoops line(int count, int capacity) {
-        ManorLoops m = rooms(count, capacity);
-        for (int room = 1; room < count; room++) {
-            m.door(room - 1, room, 6);
-        }
-        return m;
     }
 }

@@ -3,17 +3,7 @@ public final class OutlookTest {
     private static final int[] WILD = {-1, -2, Integer.MIN_VALUE, Integer.MAX_VALUE};
 
     public static void main(String[] args) {
-        promise23WouldKnow();
-        promise23Behind600();
-        promise24BestHabit();
-        promise24OfSeveral();
-        promise25WouldCut();
-        promise26Doubles();
-        promise23To26Wrong();
-        outlooksChangeNothing();
-        promise27Digest();
-        promise27DigestOfPlay();
-        Check.end();
+        Check.runAll(OutlookTest.class);
     }
 
     private static void promise23WouldKnow() {
@@ -133,6 +123,74 @@ public final class OutlookTest {
         Check.same("twice", end.wouldCut(40), 2);
     }
 
+    private static void promise25PropThatATrackHolds() {
+        for (int track = 0; track < 5; track++) {
+            ManorLoops m = Houses.cast(2);
+            m.scene(0, 1, 1, 1 << track, 0);
+            m.scene(0, 10, 1, 1 << track, 0);
+            m.scene(0, 12, 1, 1 << (track + 1) % 5, 0);
+            m.pass(5);
+            Check.same("in the LOOP, of " + track, m.wouldCut(10), 0);
+            Check.same("the one without it, of " + track, m.wouldCut(11), 1);
+            Check.same("in two LOOPS, of " + track, m.wouldCut(31), 2);
+        }
+    }
+
+    private static void promise25PropThatAGuestHolds() {
+        for (int guest = 0; guest < 3; guest++) {
+            ManorLoops m = new ManorLoops();
+            m.room(3);
+            m.track(0);
+            m.prop(0);
+            m.scene(0, 5, 1, 1, 0);
+            for (int i = 0; i < 3; i++) {
+                m.guest(0);
+            }
+            Check.same("as it lies there", m.wouldCut(40), 0);
+            m.take(guest, 0);
+            Check.same("HELD by " + guest + " for 8 minutes", m.wouldCut(8), 0);
+            Check.same("HELD by " + guest + " for 9 minutes", m.wouldCut(9), 1);
+            Check.same("HELD by " + guest + " for two LOOPS", m.wouldCut(40), 2);
+            m.pass(12);
+            m.leave(guest);
+            Check.same("when it lies again", m.wouldCut(40), 0);
+        }
+    }
+
+    private static void promise23InTheMiddleOfAScene() {
+        for (int length = 1; length <= 8; length++) {
+            for (int passed = 1; passed <= length; passed++) {
+                ManorLoops m = new ManorLoops();
+                m.room(30);
+                m.track(0);
+                m.scene(0, 1, length, 1, -1);
+                m.pass(passed);
+                m.guest(0);
+                int due = length - passed >= (length + 1) / 2 ? 1 : 0;
+                Check.same(passed + " of " + length + " have passed", m.wouldKnow(0, 10), due);
+                Check.same(passed + " of " + length + ", the next LOOP too", m.wouldKnow(0, 40), 1);
+            }
+        }
+    }
+
+    private static void promise23PropThatIsHome() {
+        ManorLoops m = new ManorLoops();
+        m.room(3);
+        m.track(0);
+        m.track(0);
+        m.prop(0);
+        m.scene(0, 0, 1, 1, 0);
+        m.scene(0, 3, 1, 3, 0);
+        m.guest(0);
+        m.pass(9);
+        Check.same("HELD by the greater TRACK", m.ofProp(0, 2), 1);
+        Check.same("the first LOOP's", m.ofGuest(0, 4), 3);
+        m.guest(0);
+        Check.same("nothing in this LOOP", m.wouldKnow(1, 10), 0);
+        Check.same("it lies at home in the next one", m.wouldKnow(1, 11), 1);
+        Check.same("both are known there", m.wouldKnow(1, 14), 2);
+    }
+
     private static void promise26Doubles() {
         ManorLoops m = new ManorLoops();
         m.room(1);
@@ -182,7 +240,7 @@ public final class OutlookTest {
         }
     }
 
-    private static void outlooksChangeNothing() {
+    private static void promise23To27ChangeNothing() {
         ManorLoops asked = evening();
         ManorLoops quiet = evening();
         for (int i = 0; i < 40; i++) {

@@ -3,22 +3,7 @@ public final class TellingTest {
     private static final int[] WILD = {-1, -2, Integer.MIN_VALUE, Integer.MAX_VALUE};
 
     public static void main(String[] args) {
-        promise1NewObject();
-        promise2Room();
-        promise2RoomOrder();
-        promise3Door();
-        promise3DoorLimit();
-        promise4Track();
-        promise5Prop();
-        promise6SceneAnswers();
-        promise6SceneWrong();
-        promise6SceneOverlap();
-        promise6SceneState();
-        promise6SceneOrder();
-        promise7Guest();
-        promise7GuestLimit();
-        promise8Habit();
-        Check.end();
+        Check.runAll(TellingTest.class);
     }
 
     private static void promise1NewObject() {
@@ -52,14 +37,14 @@ public final class TellingTest {
     }
 
     private static void promise2RoomOrder() {
-        ManorLoops m = rooms(8, 2);
+        ManorLoops m = Houses.rooms(8, 2);
         Check.noState(m, "room nine", () -> m.room(3));
         Check.noArgument(m, "room nine with capacity 0", () -> m.room(0));
         Check.same("rooms", m.many(1), 8);
     }
 
     private static void promise3Door() {
-        ManorLoops m = rooms(4, 3);
+        ManorLoops m = Houses.rooms(4, 3);
         Check.same("first door", m.door(0, 1, 1), 1);
         Check.same("second door", m.door(2, 1, 6), 2);
         Check.same("doors", m.many(2), 2);
@@ -82,7 +67,7 @@ public final class TellingTest {
     }
 
     private static void promise3DoorLimit() {
-        ManorLoops m = rooms(8, 3);
+        ManorLoops m = Houses.rooms(8, 3);
         int doors = 0;
         for (int one = 0; one < 8; one++) {
             for (int other = one + 1; other < 8 && doors < 14; other++) {
@@ -98,7 +83,7 @@ public final class TellingTest {
     }
 
     private static void promise4Track() {
-        ManorLoops m = rooms(2, 3);
+        ManorLoops m = Houses.rooms(2, 3);
         for (int track = 0; track < 5; track++) {
             Check.noIndex(m, "track in room 2", () -> m.track(2));
             Check.same("track", m.track(track % 2), track);
@@ -113,7 +98,7 @@ public final class TellingTest {
     }
 
     private static void promise5Prop() {
-        ManorLoops m = rooms(2, 3);
+        ManorLoops m = Houses.rooms(2, 3);
         for (int prop = 0; prop < 4; prop++) {
             Check.noIndex(m, "prop in room 2", () -> m.prop(2));
             Check.same("prop", m.prop(prop % 2), prop);
@@ -216,7 +201,7 @@ public final class TellingTest {
     }
 
     private static void promise7Guest() {
-        ManorLoops m = rooms(2, 2);
+        ManorLoops m = Houses.rooms(2, 2);
         Check.same("guest", m.guest(1), 0);
         Check.same("guest", m.guest(1), 1);
         Check.same("guest room", m.ofGuest(1, 0), 1);
@@ -234,7 +219,7 @@ public final class TellingTest {
     }
 
     private static void promise7GuestLimit() {
-        ManorLoops m = rooms(2, 30);
+        ManorLoops m = Houses.rooms(2, 30);
         for (int guest = 0; guest < 12; guest++) {
             Check.same("guest", m.guest(guest % 2), guest);
         }
@@ -244,7 +229,7 @@ public final class TellingTest {
     }
 
     private static void promise8Habit() {
-        ManorLoops m = rooms(2, 2);
+        ManorLoops m = Houses.rooms(2, 2);
         m.track(0);
         m.track(1);
         m.guest(0);
@@ -271,17 +256,9 @@ public final class TellingTest {
         Check.same("stays after refusals", m.ofGuest(0, 1), 0);
     }
 
-    private static ManorLoops rooms(int count, int capacity) {
-        ManorLoops m = new ManorLoops();
-        for (int room = 0; room < count; room++) {
-            m.room(capacity);
-        }
-        return m;
-    }
-
     /** Two rooms with a door, three tracks, two props. */
     private static ManorLoops stage() {
-        ManorLoops m = rooms(2, 4);
+        ManorLoops m = Houses.rooms(2, 4);
         m.door(0, 1, 2);
         m.track(0);
         m.track(0);
