@@ -1,6 +1,8 @@
 /** Promises 23 to 27: what would be, and the digest. */
 public final class OutlookTest {
     private static final int[] WILD = {-1, -2, Integer.MIN_VALUE, Integer.MAX_VALUE};
+    private static final int[] MINUTES = {1, 2, 3, 4, 5, 9, 20, 40};
+    private static final int HOUSES = 4;
 
     public static void main(String[] args) {
         Check.runAll(OutlookTest.class);
@@ -72,6 +74,74 @@ public final class OutlookTest {
         Check.same("to follow track 0", first.bestHabit(0, 2), 10);
     }
 
+    /** Who went to room 0 at once would be there in time, but no track that is there leads to it. */
+    private static void promise24TracksThatAreThereAlone() {
+        ManorLoops m = Houses.rooms(5, 4);
+        m.door(0, 1, 6);
+        m.door(1, 2, 6);
+        m.door(0, 3, 6);
+        m.door(3, 4, 6);
+        m.door(4, 2, 6);
+        m.track(2);
+        m.scene(0, 2, 1, 1, -1);
+        m.guest(4);
+        Check.same("no habit is in time", m.bestHabit(0, 3), 0);
+        m.track(0);
+        Check.same("behind track 1 it is", m.bestHabit(0, 3), 11);
+    }
+
+    /** What would be is compared with what is, on another object to which the same was done. */
+    private static void promise23And25AsPassDoes() {
+        for (int house = 0; house < HOUSES; house++) {
+            for (int now = 0; now <= 44; now++) {
+                ManorLoops m = house(house, now);
+                int knew = m.ofScene(2, 10);
+                for (int minutes : MINUTES) {
+                    ManorLoops later = house(house, now);
+                    later.pass(minutes);
+                    String what = minutes + " minutes from " + now + " in house " + house;
+                    Check.same("CUT in " + what, m.wouldCut(minutes), later.many(9) - m.many(9));
+                    for (int guest = 0; guest < m.many(6); guest += 3) {
+                        int known = Integer.bitCount(later.ofGuest(guest, 4));
+                        Check.same("KNOWN by " + guest + " in " + what, m.wouldKnow(guest, minutes), known);
+                    }
+                }
+                Check.same("nothing is changed", m.ofScene(2, 10), knew);
+            }
+        }
+    }
+
+    private static void promise24AsPassDoesWithEachHabit() {
+        for (int house = 0; house < HOUSES; house++) {
+            for (int now = 0; now <= 24; now += 2) {
+                ManorLoops m = house(house, now);
+                for (int guest = 0; guest < m.many(6); guest++) {
+                    for (int minutes : MINUTES) {
+                        Check.same("of " + guest + " for " + minutes + " from " + now + " in house " + house,
+                            m.bestHabit(guest, minutes), bestByPass(house, now, guest, minutes));
+                    }
+                }
+            }
+        }
+    }
+
+    private static int bestByPass(int house, int now, int guest, int minutes) {
+        int[] answers = {0, 2, 3, 10, 11, 12, 13, 14};
+        int best = -1;
+        int most = -1;
+        for (int i = 0; i < 3 + house(house, 0).many(3); i++) {
+            ManorLoops m = house(house, now);
+            m.habit(guest, answers[i] < 10 ? answers[i] : 1, answers[i] - 10);
+            m.pass(minutes);
+            int known = Integer.bitCount(m.ofGuest(guest, 4));
+            if (known > most) {
+                best = answers[i];
+                most = known;
+            }
+        }
+        return best;
+    }
+
     private static void promise24OfSeveral() {
         ManorLoops m = new ManorLoops();
         m.room(4);
@@ -121,6 +191,23 @@ public final class OutlookTest {
         Check.same("by the loop's end", end.wouldCut(20), 1);
         Check.same("not ahead of it", end.wouldCut(19), 0);
         Check.same("twice", end.wouldCut(40), 2);
+    }
+
+    private static void promise25LateAlready() {
+        for (int late = 0; late < 5; late++) {
+            ManorLoops m = Houses.rooms(2, 1);
+            m.track(0);
+            m.track(1);
+            m.scene(1, 1, 8, 2, -1);
+            m.scene(1, 4, 2, 1, -1);
+            m.pass(3 + late);
+            Check.same("LATE", m.ofScene(1, 7), late);
+            Check.same("with the fifth LATE minute", m.wouldCut(5 - late), 1);
+            if (late < 4) {
+                Check.same("ahead of it", m.wouldCut(4 - late), 0);
+            }
+            Check.same("LATE still", m.ofScene(1, 7), late);
+        }
     }
 
     private static void promise25PropThatATrackHolds() {
@@ -192,15 +279,7 @@ public final class OutlookTest {
     }
 
     private static void promise26Doubles() {
-        ManorLoops m = new ManorLoops();
-        m.room(1);
-        for (int track = 0; track < 5; track++) {
-            m.track(0);
-        }
-        m.scene(0, 0, 4, 1, -1);
-        m.scene(0, 3, 2, 2, -1);
-        m.scene(0, 4, 2, 4, -1);
-        m.scene(0, 9, 1, 10, -1);
+        ManorLoops m = unlikeTracks();
         Check.same("of 0", m.doubles(0), 4 + 8 + 16);
         Check.same("of 1", m.doubles(1), 16);
         Check.same("of 2", m.doubles(2), 1 + 8 + 16);
@@ -301,6 +380,24 @@ public final class OutlookTest {
         Check.same("without a scene", bare.digest(), fold(bare));
     }
 
+    private static void promise27DigestOfEachHouse() {
+        for (int house = 0; house < HOUSES; house++) {
+            for (int now = 0; now <= 60; now++) {
+                ManorLoops m = house(house, now);
+                Check.same("of house " + house + " at " + now, m.digest(), fold(house(house, now)));
+            }
+        }
+    }
+
+    private static void promise27DigestOfUnlikeDoubles() {
+        ManorLoops m = unlikeTracks();
+        Check.same("at first", m.digest(), fold(m));
+        m.play(4, 3);
+        Check.same("with a double", m.digest(), fold(m));
+        m.pass(1);
+        Check.same("with a scene", m.digest(), fold(m));
+    }
+
     private static long fold(ManorLoops m) {
         long d = 9103;
         for (int what = 0; what <= 12; what++) {
@@ -357,6 +454,38 @@ public final class OutlookTest {
         m.scene(1, 4, 8, 2, -1);
         m.scene(2, 12, 2, 2, -1);
         m.guest(0);
+        return m;
+    }
+
+    /** Five tracks in one room, each of which could be played by others. */
+    private static ManorLoops unlikeTracks() {
+        ManorLoops m = new ManorLoops();
+        m.room(1);
+        for (int track = 0; track < 5; track++) {
+            m.track(0);
+        }
+        m.scene(0, 0, 4, 1, -1);
+        m.scene(0, 3, 2, 2, -1);
+        m.scene(0, 4, 2, 4, -1);
+        m.scene(0, 9, 1, 10, -1);
+        return m;
+    }
+
+    /** One of some houses where much goes on, at a certain NOW. */
+    private static ManorLoops house(int number, int now) {
+        ManorLoops m = number == 0 ? Houses.full() : number == 1 ? Houses.middling() : evening();
+        if (number >= 2) {
+            m.track(2);
+            m.guest(1);
+            m.guest(0);
+            m.habit(1, 2, 0);
+            m.habit(2, 1, 2);
+            m.take(number == 2 ? 0 : 2, 0);
+            m.play(number == 2 ? 2 : 0, number == 2 ? 1 : 2);
+        }
+        for (int passed = 0; passed < now; passed += 15) {
+            m.pass(Math.min(15, now - passed));
+        }
         return m;
     }
 }
